@@ -1,0 +1,83 @@
+import java.lang.reflect.InvocationTargetException;
+import java.lang.reflect.Method;
+import java.util.ArrayList;
+import java.util.Arrays;
+import java.util.HashMap;
+import java.util.List;
+import java.util.Map;
+
+/** Calls a NotebookLab, or the model of it, by a method's name, and tells the answer as a text. */
+final class Lab {
+    private static final String[] OF_NOTHING =
+        {"cellCount", "fresh", "tick", "work", "load", "meanValue", "isSound"};
+    private static final String[] OF_CELL =
+        {"state", "resultAnew", "runs", "found", "failure", "root", "rootFailure", "causes", "owners"};
+    private static final String[] OF_VARIABLE = {"value", "writer", "dependents"};
+    private static final String[] OF_VIEW = {"held", "isCurrent"};
+
+    private static final Map<Class<?>, Map<String, Method>> METHODS = new HashMap<>();
+
+    private Lab() {
+    }
+
+    /** The answer, or "throws " and the exact name of the exception. */
+    static String answer(Object lab, String call, Object... arguments) {
+        try {
+            return String.valueOf(method(lab, call).invoke(lab, arguments));
+        } catch (InvocationTargetException e) {
+            return "throws " + e.getCause().getClass().getSimpleName();
+        } catch (IllegalAccessException e) {
+            throw new AssertionError(e);
+        }
+    }
+
+    private static Method method(Object lab, String call) {
+        Map<String, Method> methods = METHODS.computeIfAbsent(lab.getClass(), Lab::methodsOf);
+        if (!methods.containsKey(call)) {
+            throw new AssertionError("no method " + call);
+        }
+        return methods.get(call);
+    }
+
+    private static Map<String, Method> methodsOf(Class<?> face) {
+        Map<String, Method> methods = new HashMap<>();
+        for (Method m : face.getDeclaredMethods()) {
+            methods.put(m.getName(), m);
+        }
+        return methods;
+    }
+
+    /** What all calls answer that change nothing, wrong arguments included. */
+    static List<String> snapshot(Object lab) {
+        List<String> lines = new ArrayList<>();
+        for (String call : OF_NOTHING) {
+            add(lines, lab, call);
+        }
+        for (int cell = -1; cell <= 11; cell++) {
+            for (String call : OF_CELL) {
+                add(lines, lab, call, cell);
+            }
+            for (int variable = -1; variable <= 12; variable++) {
+                add(lines, lab, "depends", cell, variable);
+            }
+        }
+        for (int variable = -1; variable <= 12; variable++) {
+            for (String call : OF_VARIABLE) {
+                add(lines, lab, call, variable);
+            }
+        }
+        for (int kernel = -1; kernel <= 3; kernel++) {
+            add(lines, lab, "free", kernel);
+        }
+        for (int view = -1; view <= 20; view++) {
+            for (String call : OF_VIEW) {
+                add(lines, lab, call, view);
+            }
+        }
+        return lines;
+    }
+
+    private static void add(List<String> lines, Object lab, String call, Object... arguments) {
+        lines.add(call + Arrays.toString(arguments) + " = " + answer(lab, call, arguments));
+    }
+}
