@@ -23,9 +23,10 @@ public final class NotebookLab {
     /** Stands for no value, no owner, no writer, no second variable, no kernel; all of these count from 0. */
     private static final int NONE = -1;
 
-    private static final char NEVER_RAN = 'n';
-    private static final char SUCCEEDED = 's';
-    private static final char FAILED = 'x';
+    // How a cell ended at last; to have waited is no ending.
+    private static final int NEVER_ENDED = 0;
+    private static final int SUCCEEDED = 1;
+    private static final int FAILED = 2;
 
     /** A cell: what it was told to be, how it ended at last, and what it saw then. */
     private static final class Cell {
@@ -39,7 +40,7 @@ public final class NotebookLab {
         int period;
         /** Bit v stands for the variable v, on which this cell depends. */
         int lineage;
-        char ending = NEVER_RAN;
+        int ending = NEVER_ENDED;
         int seenFirst;
         int seenSecond;
         int seenConstant;
@@ -279,7 +280,7 @@ public final class NotebookLab {
 
     public char state(int cell) throws IndexOutOfBoundsException {
         Cell asked = cellAt(cell);
-        if (asked.ending == NEVER_RAN) {
+        if (asked.ending == NEVER_ENDED) {
             return 'n';
         }
         if (asked.ending == FAILED) {
@@ -613,7 +614,7 @@ public final class NotebookLab {
         endWith(cell, SUCCEEDED, result);
     }
 
-    private void endWith(Cell cell, char ending, int value) {
+    private void endWith(Cell cell, int ending, int value) {
         cell.ending = ending;
         values[cell.writes] = value;
     }

@@ -215,6 +215,10 @@ public final class PromiseTests {
         due(4095 % 1000, lab.value(11));
         due(true, lab.depends(10, 0));
         due(11, lab.dependents(0));
+        due(11, lab.fresh());
+        due(4095 % 1000, lab.resultAnew(10));
+        due(0, lab.pass(1));
+        due(true, lab.isSound());
         for (int variable = 0; variable < 12; variable++) {
             refused(lab, UNSUPPORTED, "addCell", '+', 0, -1, 0, variable, 1, 1);
             refused(lab, STATE, "addData", variable, 0, 0);
@@ -648,12 +652,26 @@ public final class PromiseTests {
         due('m', lab.failure(1));
         due('z', lab.rootFailure(1));
         due(1, lab.causes(1));
+        due('m', lab.failure(2));
         due(2, lab.causes(2));
         due(0, lab.root(2));
         // The first variable without a value is the reason: 3, not 1.
         due(3, lab.causes(3));
         due(0, lab.root(3));
         due(1, lab.causes(4));
+        // A cell that failed by a division fails by what is missing, with a cause.
+        lab.addCell('/', 1, -1, 0, 6, 1, 1);
+        lab.setConstant(0, 1);
+        lab.addKernel(1);
+        due('r', lab.run(0));
+        due('z', lab.run(5));
+        due('z', lab.failure(5));
+        lab.setConstant(0, 0);
+        due('z', lab.run(0));
+        due('m', lab.run(5));
+        due('m', lab.failure(5));
+        due('z', lab.rootFailure(5));
+        due(0, lab.root(5));
         // Data without a value have no cell that could be the cause.
         lab.loseData(0);
         lab.run(2);
@@ -731,9 +749,13 @@ public final class PromiseTests {
         lab.addData(9, 1, 0);
         lab.addCell('+', 8, 9, 0, 10, 1, 1);
         due(15, lab.owners(5));
+        // Two data of one owner count once.
+        lab.addData(11, 1, 0);
+        lab.addCell('+', 9, 11, 0, 5, 1, 1);
+        due(2, lab.owners(6));
         lab.loseData(0);
         due(1, lab.owners(0));
-        for (int cell : with(FAR, -1, 6)) {
+        for (int cell : with(FAR, -1, 7)) {
             refused(lab, INDEX, "owners", cell);
         }
     }
@@ -908,6 +930,17 @@ public final class PromiseTests {
         due(5, lab.found(1));
         due('s', lab.state(1));
         due(true, lab.isSound());
+        // Of a chain that is fresh nothing is run, scheduled or not.
+        lab.pass(1);
+        lab.run(0);
+        lab.pass(1);
+        lab.addCell('+', 2, 1, 1, 3, 1, 1);
+        lab.schedule(2, 1);
+        due(1, lab.pass(2));
+        due(3, lab.fresh());
+        due(0, lab.pass(4));
+        lab.schedule(0, 1);
+        due(0, lab.pass(4));
     }
 
     private static void tick() {
@@ -1058,12 +1091,25 @@ public final class PromiseTests {
         lab.loseData(0);
         lab.run(0);
         due(false, lab.isCurrent(0));
+        lab.setData(0, 8);
+        lab.run(0);
+        lab.addCell('+', 1, -1, 1, 2, 1, 1);
+        lab.run(1);
+        due(2, lab.publish(1));
+        due(true, lab.isCurrent(2));
+        lab.setConstant(1, 2);
+        due(true, lab.isCurrent(0));
+        due(false, lab.isCurrent(2));
+        lab.run(1);
+        due(false, lab.isCurrent(2));
     }
 
     private static void isSound() {
         promise = "35: isSound";
         NotebookLab lab = lineage();
         lab.addKernel(3);
+        lab.addKernel(1);
+        lab.addKernel(20);
         due(true, lab.isSound());
         for (int i = 0; i < 40; i++) {
             lab.setData(i % 3, i * 37 % 1000);
