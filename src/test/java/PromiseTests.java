@@ -1,22 +1,10 @@
 import java.util.Arrays;
-import java.util.List;
 
 /**
  * For each promise of the document: ordinary inputs, the edges that it names, and wrong inputs. A call that throws is
  * looked at from both sides: nothing that can be asked has changed.
  */
-public final class PromiseTests {
-    private static final String ARGUMENT = "IllegalArgumentException";
-    private static final String STATE = "IllegalStateException";
-    private static final String ELEMENT = "NoSuchElementException";
-    private static final String INDEX = "IndexOutOfBoundsException";
-    private static final String UNSUPPORTED = "UnsupportedOperationException";
-    private static final String ARITHMETIC = "ArithmeticException";
-    private static final int[] FAR = {Integer.MIN_VALUE, Integer.MAX_VALUE};
-
-    private static int wrong;
-    private static String promise = "";
-
+public final class PromiseTests extends Checks {
     public static void main(String[] args) {
         newObject();
         addData();
@@ -58,14 +46,11 @@ public final class PromiseTests {
         held();
         isCurrent();
         isSound();
-        System.out.println(wrong == 0 ? "all promises are kept" : wrong + " answers are not as due");
-        if (wrong != 0) {
-            System.exit(1);
-        }
+        end("all promises are kept");
     }
 
     private static void newObject() {
-        promise = "1: A new object";
+        about("promise 1: A new object");
         NotebookLab lab = new NotebookLab();
         due(0, lab.cellCount());
         due(0, lab.tick());
@@ -90,7 +75,7 @@ public final class PromiseTests {
     }
 
     private static void addData() {
-        promise = "2: addData";
+        about("promise 2: addData");
         NotebookLab lab = new NotebookLab();
         due(1, lab.addData(0, 0, 0));
         due(2, lab.addData(11, 3, 999));
@@ -118,7 +103,7 @@ public final class PromiseTests {
     }
 
     private static void setData() {
-        promise = "3: setData";
+        about("promise 3: setData");
         NotebookLab lab = new NotebookLab();
         lab.addData(3, 1, 8);
         lab.addCell('+', 3, -1, 0, 4, 1, 1);
@@ -140,7 +125,7 @@ public final class PromiseTests {
     }
 
     private static void loseData() {
-        promise = "4: loseData";
+        about("promise 4: loseData");
         NotebookLab lab = new NotebookLab();
         lab.addData(3, 1, 8);
         lab.addKernel(1);
@@ -160,7 +145,7 @@ public final class PromiseTests {
     }
 
     private static void addCell() {
-        promise = "5: addCell";
+        about("promise 5: addCell");
         NotebookLab lab = new NotebookLab();
         lab.addData(0, 0, 6);
         lab.addData(11, 0, 7);
@@ -202,7 +187,7 @@ public final class PromiseTests {
     }
 
     private static void addCellUpToEleven() {
-        promise = "5: addCell, up to 11";
+        about("promise 5: addCell, up to 11");
         NotebookLab lab = new NotebookLab();
         lab.addData(0, 2, 1);
         lab.addKernel(20);
@@ -226,7 +211,7 @@ public final class PromiseTests {
     }
 
     private static void setConstant() {
-        promise = "6: setConstant";
+        about("promise 6: setConstant");
         NotebookLab lab = small();
         due(2, lab.setConstant(0, 99));
         due(99, lab.setConstant(0, 0));
@@ -244,7 +229,7 @@ public final class PromiseTests {
     }
 
     private static void cellCountAndWriter() {
-        promise = "7 and 9: cellCount, writer";
+        about("promise 7 and 9: cellCount, writer");
         NotebookLab lab = small();
         due(2, lab.cellCount());
         due(0, lab.writer(1));
@@ -260,7 +245,7 @@ public final class PromiseTests {
     }
 
     private static void value() {
-        promise = "8: value";
+        about("promise 8: value");
         NotebookLab lab = small();
         due(10, lab.value(0));
         refused(lab, ELEMENT, "value", 1);
@@ -277,7 +262,7 @@ public final class PromiseTests {
     }
 
     private static void results() {
-        promise = "10: run, the results by kind";
+        about("promise 10: run, the results by kind");
         due(999 + 999 + 99 - 2000, result('+', 999, 999, 99));
         due(98, result('+', 999, -1, 99));
         due(0, result('+', 0, 0, 0));
@@ -297,7 +282,7 @@ public final class PromiseTests {
     }
 
     private static void divisionByZero() {
-        promise = "10: run, division by 0";
+        about("promise 10: run, division by 0");
         NotebookLab lab = new NotebookLab();
         lab.addData(0, 0, 5);
         lab.addData(1, 0, 0);
@@ -325,7 +310,7 @@ public final class PromiseTests {
     }
 
     private static void run() {
-        promise = "10: run";
+        about("promise 10: run");
         NotebookLab lab = new NotebookLab();
         lab.addData(0, 0, 10);
         lab.addCell('+', 0, -1, 2, 1, 3, 2);
@@ -358,7 +343,7 @@ public final class PromiseTests {
     }
 
     private static void runKeepsFour() {
-        promise = "10: run, the 4 results that were computed last";
+        about("promise 10: run, the 4 results that were computed last");
         NotebookLab lab = new NotebookLab();
         lab.addData(0, 0, 0);
         lab.addKernel(20);
@@ -396,7 +381,7 @@ public final class PromiseTests {
     }
 
     private static void runOfFailedCell() {
-        promise = "10: run, after a failure";
+        about("promise 10: run, after a failure");
         NotebookLab lab = small();
         due('r', lab.run(0));
         lab.loseData(0);
@@ -422,7 +407,7 @@ public final class PromiseTests {
     }
 
     private static void runAll() {
-        promise = "11: runAll";
+        about("promise 11: runAll");
         NotebookLab lab = small();
         due(2, lab.runAll());
         due(24, lab.value(2));
@@ -451,7 +436,7 @@ public final class PromiseTests {
     }
 
     private static void state() {
-        promise = "12: state";
+        about("promise 12: state");
         NotebookLab lab = small();
         due('n', lab.state(0));
         lab.run(0);
@@ -486,7 +471,7 @@ public final class PromiseTests {
     }
 
     private static void stateOfChains() {
-        promise = "12: state, of what cells write";
+        about("promise 12: state, of what cells write");
         NotebookLab lab = new NotebookLab();
         lab.addData(0, 0, 7);
         lab.addData(1, 0, 2);
@@ -519,7 +504,7 @@ public final class PromiseTests {
     }
 
     private static void resultAnew() {
-        promise = "13: resultAnew";
+        about("promise 13: resultAnew");
         NotebookLab lab = new NotebookLab();
         lab.addData(0, 0, 7);
         lab.addCell('+', 0, -1, 3, 1, 1, 1);
@@ -551,7 +536,7 @@ public final class PromiseTests {
     }
 
     private static void fresh() {
-        promise = "14: fresh";
+        about("promise 14: fresh");
         NotebookLab lab = small();
         due(0, lab.fresh());
         lab.run(0);
@@ -568,7 +553,7 @@ public final class PromiseTests {
     }
 
     private static void runsAndFound() {
-        promise = "15 and 16: runs, found";
+        about("promise 15 and 16: runs, found");
         NotebookLab lab = small();
         due(0, lab.runs(0));
         due(0, lab.found(0));
@@ -600,7 +585,7 @@ public final class PromiseTests {
     }
 
     private static void failure() {
-        promise = "17: failure";
+        about("promise 17: failure");
         NotebookLab lab = new NotebookLab();
         lab.addData(0, 0, 7);
         lab.addData(1, 0, 0);
@@ -631,7 +616,7 @@ public final class PromiseTests {
     }
 
     private static void rootAndCauses() {
-        promise = "18 to 20: root, rootFailure, causes";
+        about("promise 18 to 20: root, rootFailure, causes");
         NotebookLab lab = new NotebookLab();
         lab.addData(0, 0, 7);
         lab.addCell('/', 0, -1, 0, 1, 1, 1);
@@ -681,7 +666,7 @@ public final class PromiseTests {
     }
 
     private static void causeAsItWasThen() {
-        promise = "18 to 20: the last failure of that cell, as it is then";
+        about("promise 18 to 20: the last failure of that cell, as it is then");
         NotebookLab lab = new NotebookLab();
         lab.addData(0, 0, 7);
         lab.addKernel(20);
@@ -716,7 +701,7 @@ public final class PromiseTests {
     }
 
     private static void depends() {
-        promise = "21: depends";
+        about("promise 21: depends");
         NotebookLab lab = lineage();
         boolean[][] due = {{true, false, false, false, false, false}, {false, true, false, false, false, false},
             {true, false, false, true, false, false}, {true, true, false, true, true, false}};
@@ -738,7 +723,7 @@ public final class PromiseTests {
     }
 
     private static void owners() {
-        promise = "22: owners";
+        about("promise 22: owners");
         NotebookLab lab = lineage();
         due(1, lab.owners(0));
         due(8, lab.owners(1));
@@ -761,7 +746,7 @@ public final class PromiseTests {
     }
 
     private static void dependents() {
-        promise = "23: dependents";
+        about("promise 23: dependents");
         NotebookLab lab = lineage();
         int[] due = {3, 2, 0, 2, 1, 0, 1, 0, 0, 0, 0, 0};
         for (int variable = 0; variable < 12; variable++) {
@@ -773,7 +758,7 @@ public final class PromiseTests {
     }
 
     private static void addKernel() {
-        promise = "24: addKernel";
+        about("promise 24: addKernel");
         NotebookLab lab = new NotebookLab();
         for (int room : with(FAR, 0, 21, -1)) {
             refused(lab, ARGUMENT, "addKernel", room);
@@ -790,7 +775,7 @@ public final class PromiseTests {
     }
 
     private static void free() {
-        promise = "25: free";
+        about("promise 25: free");
         NotebookLab lab = new NotebookLab();
         lab.addData(0, 0, 1);
         lab.addKernel(10);
@@ -819,7 +804,7 @@ public final class PromiseTests {
     }
 
     private static void kernelChoice() {
-        promise = "10: run, the kernel with the least room that is enough";
+        about("promise 10: run, the kernel with the least room that is enough");
         NotebookLab lab = new NotebookLab();
         lab.addData(0, 0, 1);
         lab.addKernel(8);
@@ -850,7 +835,7 @@ public final class PromiseTests {
     }
 
     private static void schedule() {
-        promise = "26: schedule";
+        about("promise 26: schedule");
         NotebookLab lab = small();
         due(0, lab.schedule(0, 50));
         due(50, lab.schedule(0, 1));
@@ -868,7 +853,7 @@ public final class PromiseTests {
     }
 
     private static void pass() {
-        promise = "27: pass";
+        about("promise 27: pass");
         NotebookLab lab = new NotebookLab();
         lab.addData(0, 0, 10);
         lab.addKernel(1);
@@ -907,7 +892,7 @@ public final class PromiseTests {
     }
 
     private static void passOrder() {
-        promise = "27: pass, by rising numbers";
+        about("promise 27: pass, by rising numbers");
         NotebookLab lab = new NotebookLab();
         lab.addData(0, 0, 1);
         lab.addKernel(1);
@@ -944,7 +929,7 @@ public final class PromiseTests {
     }
 
     private static void tick() {
-        promise = "28: tick, and 27: pass up to 5000";
+        about("promise 28: tick, and 27: pass up to 5000");
         NotebookLab lab = new NotebookLab();
         for (int i = 0; i < 99; i++) {
             lab.pass(50);
@@ -961,7 +946,7 @@ public final class PromiseTests {
     }
 
     private static void work() {
-        promise = "29: work";
+        about("promise 29: work");
         NotebookLab lab = new NotebookLab();
         lab.addData(0, 0, 1);
         lab.addCell('+', 0, -1, 0, 1, 5, 9);
@@ -985,7 +970,7 @@ public final class PromiseTests {
     }
 
     private static void load() {
-        promise = "30: load";
+        about("promise 30: load");
         NotebookLab lab = new NotebookLab();
         lab.addData(0, 0, 1);
         lab.addCell('+', 0, -1, 0, 1, 5, 2);
@@ -1002,7 +987,7 @@ public final class PromiseTests {
     }
 
     private static void meanValue() {
-        promise = "31: meanValue";
+        about("promise 31: meanValue");
         NotebookLab lab = new NotebookLab();
         refused(lab, ARITHMETIC, "meanValue");
         lab.addData(0, 0, 0);
@@ -1022,7 +1007,7 @@ public final class PromiseTests {
     }
 
     private static void publish() {
-        promise = "32: publish";
+        about("promise 32: publish");
         NotebookLab lab = small();
         refused(lab, STATE, "publish", 0);
         lab.runAll();
@@ -1046,7 +1031,7 @@ public final class PromiseTests {
     }
 
     private static void held() {
-        promise = "33: held";
+        about("promise 33: held");
         NotebookLab lab = small();
         lab.runAll();
         lab.publish(1);
@@ -1067,7 +1052,7 @@ public final class PromiseTests {
     }
 
     private static void isCurrent() {
-        promise = "34: isCurrent";
+        about("promise 34: isCurrent");
         NotebookLab lab = new NotebookLab();
         lab.addData(0, 0, 7);
         lab.addKernel(20);
@@ -1105,7 +1090,7 @@ public final class PromiseTests {
     }
 
     private static void isSound() {
-        promise = "35: isSound";
+        about("promise 35: isSound");
         NotebookLab lab = lineage();
         lab.addKernel(3);
         lab.addKernel(1);
@@ -1165,47 +1150,5 @@ public final class PromiseTests {
     private static char runWith(NotebookLab lab, int value) {
         lab.setData(0, value);
         return lab.run(0);
-    }
-
-    private static void dueFree(NotebookLab lab, int... free) {
-        for (int kernel = 0; kernel < free.length; kernel++) {
-            due(free[kernel], lab.free(kernel));
-        }
-    }
-
-    private static int[] with(int[] far, int... near) {
-        int[] all = Arrays.copyOf(near, near.length + far.length);
-        System.arraycopy(far, 0, all, near.length, far.length);
-        return all;
-    }
-
-    private static void refused(NotebookLab lab, String exception, String call, Object... arguments) {
-        List<String> before = Lab.snapshot(lab);
-        String told = Lab.answer(lab, call, arguments);
-        if (!told.equals("throws " + exception)) {
-            say(call + Arrays.toString(arguments) + " answered " + told + ", due is " + exception);
-        }
-        if (!before.equals(Lab.snapshot(lab))) {
-            say(call + Arrays.toString(arguments) + " throws and changes something");
-        }
-    }
-
-    private static void due(Object want, Object got) {
-        if (!want.equals(got)) {
-            say("answered " + got + ", due is " + want);
-        }
-    }
-
-    private static void say(String what) {
-        wrong++;
-        StackTraceElement[] trace = new Throwable().getStackTrace();
-        int line = 0;
-        for (StackTraceElement e : trace) {
-            if (!List.of("say", "due", "refused", "dueFree", "result").contains(e.getMethodName())) {
-                line = e.getLineNumber();
-                break;
-            }
-        }
-        System.out.println("WRONG, promise " + promise + ", line " + line + ": " + what);
     }
 }
