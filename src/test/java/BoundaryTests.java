@@ -40,7 +40,7 @@ public final class BoundaryTests extends Checks {
                 }
                 about(part.getSimpleName() + "." + m.getName() + ", '" + says.value() + "'");
                 runTest(m);
-            } else if (Modifier.isPrivate(m.getModifiers()) == false && !m.isSynthetic()) {
+            } else if (!Modifier.isPrivate(m.getModifiers()) && !m.isSynthetic()) {
                 about("the tests");
                 say(part.getSimpleName() + "." + m.getName() + " is neither private nor the test of a sentence");
             }

@@ -38,7 +38,8 @@ final class DataBoundaries extends Checks {
         due(5, one.value(0));
     }
 
-    @Says(promise = 1, value = "Creates a notebook without data, cells, kernels and views, at the tick 0: it lets ticks pass")
+    @Says(promise = 1,
+        value = "Creates a notebook without data, cells, kernels and views, at the tick 0: it lets ticks pass")
     static void emptyLetsTicksPass() {
         NotebookLab lab = new NotebookLab();
         due(0, lab.pass(50));
@@ -95,7 +96,9 @@ final class DataBoundaries extends Checks {
         }
     }
 
-    @Says(promise = 2, value = "Returns the number of variables that are data then: data without a value are, what cells write is not")
+    @Says(promise = 2,
+        value = "Returns the number of variables that are data then: data without a value are, what cells "
+            + "write is not")
     static void addDataCountsDataAlone() {
         NotebookLab lab = Rooms.mixed();
         due(4, lab.addData(10, 0, 0));
@@ -308,7 +311,9 @@ final class DataBoundaries extends Checks {
         refusedOutside(1, 9, Rooms::mixed, ARGUMENT, "addCell", '+', 0, -1, 0, 10, 1, HERE);
     }
 
-    @Says(promise = {5, 7}, value = "Cells are numbered from 0; there can be at most 11, as each one writes a variable of its own.")
+    @Says(promise = {5, 7},
+        value = "Cells are numbered from 0; there can be at most 11, as each one writes a variable of its "
+            + "own.")
     static void addCellUpToEleven() {
         NotebookLab lab = new NotebookLab();
         lab.addData(11, 0, 1);
@@ -337,7 +342,9 @@ final class DataBoundaries extends Checks {
         refused(Rooms::empty, UNSUPPORTED, "addCell", '+', 0, -1, 0, 1, 1, 1);
     }
 
-    @Says(promise = 5, value = "It can only read what is data or is written by a cell when it is added: not what it writes itself")
+    @Says(promise = 5,
+        value = "It can only read what is data or is written by a cell when it is added: not what it writes "
+            + "itself")
     static void addCellDoesNotReadItself() {
         refused(Rooms::mixed, UNSUPPORTED, "addCell", '+', 10, -1, 0, 10, 1, 1);
         refused(Rooms::mixed, UNSUPPORTED, "addCell", '+', 0, 10, 0, 10, 1, 1);

@@ -24,7 +24,8 @@ final class FailureBoundaries extends Checks {
         }
     }
 
-    @Says(promise = {17, 18, 19, 20}, value = "it has failed, 'x', if it failed at last: not any more after a run or a find")
+    @Says(promise = {17, 18, 19, 20},
+        value = "it has failed, 'x', if it failed at last: not any more after a run or a find")
     static void notFailedAnyMore() {
         NotebookLab lab = longest();
         lab.setConstant(0, 1);
@@ -115,7 +116,9 @@ final class FailureBoundaries extends Checks {
         due(2, lab.causes(8));
     }
 
-    @Says(promise = {18, 19, 20}, value = "the first variable that it reads without a value is the reason: the second one, if the first has a value")
+    @Says(promise = {18, 19, 20},
+        value = "the first variable that it reads without a value is the reason: the second one, if the "
+            + "first has a value")
     static void theSecondWithoutAValue() {
         NotebookLab lab = Rooms.mixed();
         lab.addCell('+', 0, 4, 0, 10, 1, 1);
@@ -129,7 +132,8 @@ final class FailureBoundaries extends Checks {
         due('z', lab.rootFailure(8));
     }
 
-    @Says(promise = {18, 19, 20}, value = "the first variable that it reads without a value is the reason: both can be the same one")
+    @Says(promise = {18, 19, 20},
+        value = "the first variable that it reads without a value is the reason: both can be the same one")
     static void theSameTwice() {
         NotebookLab lab = Rooms.mixed();
         lab.addCell('/', 4, 4, 0, 10, 1, 1);
@@ -138,7 +142,8 @@ final class FailureBoundaries extends Checks {
         due(1, lab.causes(7));
     }
 
-    @Says(promise = {18, 19, 20}, value = "if that is written by a cell that has failed: one that was not run or waited is no cause")
+    @Says(promise = {18, 19, 20},
+        value = "if that is written by a cell that has failed: one that was not run or waited is no cause")
     static void noCause() {
         NotebookLab lab = Rooms.mixed();
         lab.addCell('+', 8, -1, 0, 10, 1, 1);
@@ -151,7 +156,8 @@ final class FailureBoundaries extends Checks {
         }
     }
 
-    @Says(promise = {18, 19, 20}, value = "if that is written by a cell that has failed: one that failed and then waits still has")
+    @Says(promise = {18, 19, 20},
+        value = "if that is written by a cell that has failed: one that failed and then waits still has")
     static void causeThatWaits() {
         NotebookLab lab = Rooms.chain();
         lab.loseData(0);
@@ -185,7 +191,8 @@ final class FailureBoundaries extends Checks {
         due('z', lab.rootFailure(3));
     }
 
-    @Says(promise = {18, 19, 20}, value = "the last failure of that cell, as it is then: a run of that cell does not take it away")
+    @Says(promise = {18, 19, 20},
+        value = "the last failure of that cell, as it is then: a run of that cell does not take it away")
     static void causesThatRan() {
         NotebookLab lab = longest();
         lab.addKernel(20);
@@ -201,7 +208,9 @@ final class FailureBoundaries extends Checks {
         due(3, lab.causes(3));
     }
 
-    @Says(promise = 20, value = "Returns the number of causes, 0 if it is the root itself: a new failure can have fewer and more")
+    @Says(promise = 20,
+        value = "Returns the number of causes, 0 if it is the root itself: a new failure can have fewer and "
+            + "more")
     static void fewerAndMoreCauses() {
         NotebookLab lab = new NotebookLab();
         lab.addData(0, 0, 1);

@@ -130,7 +130,9 @@ final class KernelBoundaries extends Checks {
         }
     }
 
-    @Says(promise = {25, 27}, value = "A need that is taken at a tick is free again when the number of the tick is greater by the time.")
+    @Says(promise = {25, 27},
+        value = "A need that is taken at a tick is free again when the number of the tick is greater by the "
+            + "time.")
     static void freeAgainWithinAPass() {
         for (int ticks = 1; ticks <= 12; ticks++) {
             NotebookLab lab = Rooms.single('+', 0, -1, 0, 5, 3, 9);
@@ -141,7 +143,8 @@ final class KernelBoundaries extends Checks {
         }
     }
 
-    @Says(promise = {25, 27}, value = "needs whose time is over are free again: each one at its own tick, of several kernels")
+    @Says(promise = {25, 27},
+        value = "needs whose time is over are free again: each one at its own tick, of several kernels")
     static void eachNeedAtItsOwnTick() {
         NotebookLab lab = new NotebookLab();
         lab.addData(0, 0, 1);
@@ -166,7 +169,8 @@ final class KernelBoundaries extends Checks {
         dueFree(lab, 3, 20);
     }
 
-    @Says(promise = {25, 27}, value = "needs whose time is over are free again: of many that were taken at successive ticks")
+    @Says(promise = {25, 27},
+        value = "needs whose time is over are free again: of many that were taken at successive ticks")
     static void needsOfSuccessiveTicks() {
         NotebookLab lab = Rooms.single('+', 0, -1, 0, 20, 2, 9);
         for (int tick = 0; tick < 60; tick++) {
@@ -252,7 +256,8 @@ final class KernelBoundaries extends Checks {
         due(0.0f, lab.load());
     }
 
-    @Says(promise = 30, value = "Returns the sum of what is taken divided by that of all rooms, both converted to float.")
+    @Says(promise = 30,
+        value = "Returns the sum of what is taken divided by that of all rooms, both converted to float.")
     static void loadShare() {
         NotebookLab lab = Rooms.single('+', 0, -1, 0, 20, 5, 9);
         lab.addKernel(20);

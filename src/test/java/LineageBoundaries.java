@@ -76,7 +76,8 @@ final class LineageBoundaries extends Checks {
         due(8, Rooms.full().owners(10));
     }
 
-    @Says(promise = 22, value = "Returns the owners of the data on which a cell depends: data without a value have one too")
+    @Says(promise = 22,
+        value = "Returns the owners of the data on which a cell depends: data without a value have one too")
     static void ownersOfLostData() {
         NotebookLab lab = Rooms.mixed();
         int[] due = {2, 6, 10, 6, 2, 2, 2};

@@ -21,7 +21,9 @@ final class ResultBoundaries extends Checks {
         dueResult(999, '*', 27, 37, 1);
     }
 
-    @Says(promise = {10, 13}, value = "'-': the first value minus the second one, or minus the constant, if there is no second one, without sign")
+    @Says(promise = {10, 13},
+        value = "'-': the first value minus the second one, or minus the constant, if there is no second "
+            + "one, without sign")
     static void differences() {
         dueResult(0, '-', 0, 0, 99);
         dueResult(0, '-', 999, 999, 99);
@@ -36,7 +38,9 @@ final class ResultBoundaries extends Checks {
         dueResult(900, '-', 999, -1, 99);
     }
 
-    @Says(promise = {10, 13}, value = "'/': the first value divided by the second one, or by the constant, if there is no second one, rounded down")
+    @Says(promise = {10, 13},
+        value = "'/': the first value divided by the second one, or by the constant, if there is no second "
+            + "one, rounded down")
     static void quotients() {
         dueResult(999, '/', 999, 1, 0);
         dueResult(1, '/', 999, 999, 0);
@@ -148,7 +152,9 @@ final class ResultBoundaries extends Checks {
         due(16, lab.resultAnew(10));
     }
 
-    @Says(promise = 13, value = "if all cells were run in order from the data, whatever is kept: a cell that failed at last, and a stale one")
+    @Says(promise = 13,
+        value = "if all cells were run in order from the data, whatever is kept: a cell that failed at last, "
+            + "and a stale one")
     static void anewWhateverIsKept() {
         NotebookLab lab = Rooms.full();
         lab.loseData(0);

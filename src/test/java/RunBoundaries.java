@@ -30,7 +30,9 @@ final class RunBoundaries extends Checks {
         due('m', constant.run(0));
     }
 
-    @Says(promise = 10, value = "it fails, 'm', .. otherwise 'z' .. otherwise its result is found again: no kernel is asked for that")
+    @Says(promise = 10,
+        value = "it fails, 'm', .. otherwise 'z' .. otherwise its result is found again: no kernel is asked "
+            + "for that")
     static void failuresNeedNoKernel() {
         NotebookLab lab = new NotebookLab();
         lab.addData(0, 0, 0);
@@ -43,7 +45,9 @@ final class RunBoundaries extends Checks {
         due(0, lab.runs(1));
     }
 
-    @Says(promise = 10, value = "'h', if it is kept .. otherwise it runs, 'r', if a kernel has room for its need, and waits, 'w', if none has")
+    @Says(promise = 10,
+        value = "'h', if it is kept .. otherwise it runs, 'r', if a kernel has room for its need, and waits, "
+            + "'w', if none has")
     static void foundAheadOfWaiting() {
         NotebookLab lab = Rooms.single('+', 5, -1, 0, 5, 5, 9);
         due('r', lab.run(0));
@@ -58,7 +62,9 @@ final class RunBoundaries extends Checks {
         dueFree(lab, 0);
     }
 
-    @Says(promise = 10, value = "it runs, 'r', if a kernel has room for its need: with as much as it needs, and not with one less")
+    @Says(promise = 10,
+        value = "it runs, 'r', if a kernel has room for its need: with as much as it needs, and not with one "
+            + "less")
     static void roomForTheNeed() {
         for (int need = 1; need <= 5; need++) {
             due('r', Rooms.single('+', 5, -1, 0, need, need, 1).run(0));
@@ -125,7 +131,8 @@ final class RunBoundaries extends Checks {
 
     // Kept results
 
-    @Says(promise = 10, value = "the 4 results that were computed last by runs are kept: the 4th last is, the 5th last is not")
+    @Says(promise = 10,
+        value = "the 4 results that were computed last by runs are kept: the 4th last is, the 5th last is not")
     static void fourAreKept() {
         NotebookLab lab = ran(4);
         due('h', runWith(lab, 1));
@@ -136,7 +143,8 @@ final class RunBoundaries extends Checks {
         due('r', runWith(lab, 1));
     }
 
-    @Says(promise = 10, value = "the 4 results that were computed last by runs are kept: each new one replaces the oldest")
+    @Says(promise = 10,
+        value = "the 4 results that were computed last by runs are kept: each new one replaces the oldest")
     static void eachOneReplacesTheOldest() {
         for (int count = 5; count <= 14; count++) {
             for (int value = 1; value <= count; value++) {
@@ -216,7 +224,9 @@ final class RunBoundaries extends Checks {
         due(3, lab.value(2));
     }
 
-    @Says(promise = 10, value = "if it is kept for what it reads and its constant: a value of 0 and a constant of 0 count as others do")
+    @Says(promise = 10,
+        value = "if it is kept for what it reads and its constant: a value of 0 and a constant of 0 count as "
+            + "others do")
     static void zerosAreKeptToo() {
         NotebookLab lab = Rooms.single('*', 0, 0, 0, 20, 1, 9);
         due('r', lab.run(0));

@@ -130,7 +130,9 @@ final class StateBoundaries extends Checks {
         due(1, lab.runs(2));
     }
 
-    @Says(promise = 12, value = "it is stale, 's', otherwise: also right after it ran, if what it read was written by a stale cell")
+    @Says(promise = 12,
+        value = "it is stale, 's', otherwise: also right after it ran, if what it read was written by a "
+            + "stale cell")
     static void staleRightAfterItRan() {
         NotebookLab lab = Rooms.full();
         lab.setData(0, 6);
@@ -160,7 +162,8 @@ final class StateBoundaries extends Checks {
         due(11, lab.fresh());
     }
 
-    @Says(promise = 12, value = "A cell is fresh again without a run when its constant and all that it reads are as then.")
+    @Says(promise = 12,
+        value = "A cell is fresh again without a run when its constant and all that it reads are as then.")
     static void freshAgainWithoutARun() {
         NotebookLab lab = Rooms.full();
         lab.setData(0, 999);
@@ -178,7 +181,8 @@ final class StateBoundaries extends Checks {
         }
     }
 
-    @Says(promise = 12, value = "each variable has the same value as then: then is the last run or find, not an earlier one")
+    @Says(promise = 12,
+        value = "each variable has the same value as then: then is the last run or find, not an earlier one")
     static void thenIsTheLastTime() {
         NotebookLab lab = Rooms.single('+', 1, -1, 0, 20, 1, 1);
         lab.run(0);

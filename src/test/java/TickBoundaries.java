@@ -107,7 +107,9 @@ final class TickBoundaries extends Checks {
         due(5000, lab.tick());
     }
 
-    @Says(promise = 27, value = "When a tick passes, its number increases by 1, .. Then .. each cell that is scheduled .. is run: at the last tick too")
+    @Says(promise = 27,
+        value = "When a tick passes, its number increases by 1, .. Then .. each cell that is scheduled .. is "
+            + "run: at the last tick too")
     static void runsAtTheLastTick() {
         NotebookLab lab = Rooms.single('+', 1, -1, 0, 20, 5, 9);
         for (int i = 0; i < 99; i++) {
@@ -151,7 +153,9 @@ final class TickBoundaries extends Checks {
         }
     }
 
-    @Says(promise = 27, value = "whose period divides the number of the tick: the tick counts, not when the cell was scheduled")
+    @Says(promise = 27,
+        value = "whose period divides the number of the tick: the tick counts, not when the cell was "
+            + "scheduled")
     static void periodCountsFromTickZero() {
         NotebookLab lab = Rooms.single('+', 1, -1, 0, 20, 1, 1);
         lab.pass(7);
@@ -168,7 +172,9 @@ final class TickBoundaries extends Checks {
         due(16, lab.tick());
     }
 
-    @Says(promise = 27, value = "each cell that is scheduled .. is run when a tick passes: not at the tick at which it is scheduled")
+    @Says(promise = 27,
+        value = "each cell that is scheduled .. is run when a tick passes: not at the tick at which it is "
+            + "scheduled")
     static void notRunWhenScheduled() {
         NotebookLab lab = Rooms.single('+', 1, -1, 0, 20, 1, 1);
         lab.schedule(0, 1);
@@ -181,7 +187,8 @@ final class TickBoundaries extends Checks {
         due(1, lab.pass(1));
     }
 
-    @Says(promise = 27, value = "needs whose time is over are free again. Then .. each cell that is scheduled .. is run")
+    @Says(promise = 27,
+        value = "needs whose time is over are free again. Then .. each cell that is scheduled .. is run")
     static void needsAreFreeAheadOfTheRuns() {
         for (int time = 1; time <= 9; time++) {
             NotebookLab lab = Rooms.single('+', 1, -1, 0, 5, 5, time);

@@ -175,7 +175,9 @@ final class ViewBoundaries extends Checks {
         due(true, Rooms.last().isSound());
     }
 
-    @Says(promise = 35, value = "the variable that a fresh cell writes has the result that the cell would have if all cells were run in order")
+    @Says(promise = 35,
+        value = "the variable that a fresh cell writes has the result that the cell would have if all cells "
+            + "were run in order")
     static void soundByFreshCells() {
         NotebookLab lab = Rooms.full();
         for (int value : new int[] {0, 988, 989, 999}) {
