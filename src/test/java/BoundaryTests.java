@@ -6,12 +6,16 @@ import java.util.Comparator;
 import java.util.Set;
 import java.util.TreeSet;
 
-/** Runs a test for each sentence of the document that names a boundary case: each method that bears Says. */
+/**
+ * Runs a test for each sentence of the document that names a boundary case, and for those of its first part that stand
+ * under no promise: each method that bears Says.
+ */
 public final class BoundaryTests extends Checks {
     private static final int PROMISES = 35;
     private static final Class<?>[] PARTS = {DataBoundaries.class, ResultBoundaries.class, RunBoundaries.class,
         StateBoundaries.class, FailureBoundaries.class, LineageBoundaries.class, KernelBoundaries.class,
-        TickBoundaries.class, ViewBoundaries.class, RefusalBoundaries.class};
+        TickBoundaries.class, ViewBoundaries.class, SoundnessBoundaries.class, RefusalBoundaries.class,
+        TermSentences.class};
 
     private static final Set<Integer> TESTED = new TreeSet<>();
     private static int tests;
